@@ -35,27 +35,6 @@ public final class PromisesTest {
         a.finish();
     }
 
-    /** Exceptions 1, 2, 3 below one another, none of them fatal, checked from place 0 on. */
-    private static DeclarativeRows chain() {
-        DeclarativeRows x = new DeclarativeRows();
-        x.exception(1, 99);
-        x.exception(2, 60);
-        x.exception(3, 50);
-        x.check(1, 0, true);
-        return x;
-    }
-
-    /** As many exceptions of level 1 as told, each with a use of the same number and checked from 0 on. */
-    private static DeclarativeRows rows(int many) {
-        DeclarativeRows x = new DeclarativeRows();
-        for (int i = 1; i <= many; i++) {
-            x.exception(1, 50);
-            x.use(0, i);
-            x.check(i, 0, true);
-        }
-        return x;
-    }
-
     private static void newObject() {
         a.part("promise 1");
         DeclarativeRows x = new DeclarativeRows();
@@ -225,7 +204,7 @@ public final class PromisesTest {
 
     private static void raiseWrong() {
         a.part("promise 5, wrong");
-        DeclarativeRows x = chain();
+        DeclarativeRows x = Rows.chain();
         a.due("raise(0, 0)", x.raise(0, 0), -2);
         a.due("raise(4, 0)", x.raise(4, 0), -2);
         a.due("raise(MIN, 0)", x.raise(MIN, 0), -2);
@@ -281,7 +260,7 @@ public final class PromisesTest {
 
     private static void raiseTaker() {
         a.part("promise 5, taker");
-        DeclarativeRows x = chain();
+        DeclarativeRows x = Rows.chain();
         x.use(1, 3);
         x.use(2, 3);
         a.due("raise(3, 0): uses of other kinds", x.raise(3, 0), 0);
@@ -296,14 +275,14 @@ public final class PromisesTest {
         a.due("last(0)", x.last(0), 3);
         a.due("last(1)", x.last(1), 6);
         a.due("last(2)", x.last(2), 3);
-        DeclarativeRows y = chain();
+        DeclarativeRows y = Rows.chain();
         y.use(0, 1);
         a.due("raise(3, 0): two above", y.raise(3, 0), 1);
-        DeclarativeRows z = chain();
+        DeclarativeRows z = Rows.chain();
         z.use(0, 1);
         z.use(0, 2);
         a.due("raise(3, 0): nearest above, though told later", z.raise(3, 0), 2);
-        DeclarativeRows w = chain();
+        DeclarativeRows w = Rows.chain();
         w.use(0, 3);
         a.due("raise(2, 0): a use below does not take", w.raise(2, 0), 0);
     }
@@ -332,7 +311,7 @@ public final class PromisesTest {
 
     private static void raiseBarred() {
         a.part("promise 5, barred");
-        DeclarativeRows x = rows(3);
+        DeclarativeRows x = Rows.pairs(3);
         x.raise(1, 10);
         x.raise(2, 20);
         x.raise(3, 30);
@@ -344,12 +323,12 @@ public final class PromisesTest {
         a.due("last(2)", x.last(2), 1);
         a.due("count(4)", x.count(4), 4);
         a.due("count(5)", x.count(5), 0);
-        DeclarativeRows y = chain();
+        DeclarativeRows y = Rows.chain();
         y.use(0, 1);
         y.raise(3, 1);
         a.due("raise(2, 2): another one with that taker", y.raise(2, 2), 0);
         a.due("ends()", y.ends(), true);
-        DeclarativeRows z = chain();
+        DeclarativeRows z = Rows.chain();
         z.use(0, 2);
         z.raise(3, 1);
         a.due("raise(1, 2): no taker, so passed over", z.raise(1, 2), 0);
@@ -358,7 +337,7 @@ public final class PromisesTest {
 
     private static void raiseEleventh() {
         a.part("promise 5, eleventh");
-        DeclarativeRows x = rows(11);
+        DeclarativeRows x = Rows.pairs(11);
         for (int i = 1; i <= 10; i++) {
             a.due("raise(" + i + ", 0)", x.raise(i, 0), i);
         }
@@ -374,7 +353,7 @@ public final class PromisesTest {
         a.due("last(2)", x.last(2), 11);
         a.due("count(4)", x.count(4), 11);
         a.due("count(5)", x.count(5), 0);
-        DeclarativeRows y = rows(11);
+        DeclarativeRows y = Rows.pairs(11);
         for (int i = 1; i <= 10; i++) {
             y.raise(i, 0);
         }
@@ -389,7 +368,7 @@ public final class PromisesTest {
 
     private static void taken() {
         a.part("promise 6");
-        DeclarativeRows x = rows(10);
+        DeclarativeRows x = Rows.pairs(10);
         for (int i = 1; i <= 10; i++) {
             x.raise(i, 0);
         }
@@ -409,7 +388,7 @@ public final class PromisesTest {
 
     private static void resume() {
         a.part("promise 7");
-        DeclarativeRows x = rows(3);
+        DeclarativeRows x = Rows.pairs(3);
         x.raise(1, 9999);
         x.raise(2, 0);
         x.raise(3, 5);
@@ -432,7 +411,7 @@ public final class PromisesTest {
 
     private static void resumeWrong() {
         a.part("promise 7, wrong");
-        DeclarativeRows x = rows(2);
+        DeclarativeRows x = Rows.pairs(2);
         x.raise(1, 4);
         x.raise(2, 4);
         a.due("resume(1, 0): not the latest", x.resume(1, 0), 0);
@@ -455,7 +434,7 @@ public final class PromisesTest {
 
     private static void nested() {
         a.part("promise 8");
-        DeclarativeRows x = chain();
+        DeclarativeRows x = Rows.chain();
         x.exception(1, 90);
         x.use(0, 1);
         x.use(0, 3);
@@ -484,7 +463,7 @@ public final class PromisesTest {
 
     private static void propagate() {
         a.part("promise 9");
-        DeclarativeRows x = chain();
+        DeclarativeRows x = Rows.chain();
         a.due("propagate(0): none", x.propagate(0), 0);
         x.raise(2, 0);
         a.due("propagate(-1)", x.propagate(-1), -4);
@@ -516,7 +495,7 @@ public final class PromisesTest {
 
     private static void last() {
         a.part("promise 10");
-        DeclarativeRows x = chain();
+        DeclarativeRows x = Rows.chain();
         a.due("last(0): none", x.last(0), NONE);
         x.use(0, 3);
         x.raise(3, 9999);
@@ -619,7 +598,7 @@ public final class PromisesTest {
         a.due("last(2): barred", x.last(2), 1);
         a.due("count(4)", x.count(4), 2);
         a.due("count(5)", x.count(5), 0);
-        DeclarativeRows y = rows(9);
+        DeclarativeRows y = Rows.pairs(9);
         y.use(1, 0);
         y.use(1, 1);
         for (int i = 1; i <= 9; i++) {
@@ -667,7 +646,7 @@ public final class PromisesTest {
 
     private static void ends() {
         a.part("promise 13");
-        DeclarativeRows x = rows(1);
+        DeclarativeRows x = Rows.pairs(1);
         a.due("ends() at first", x.ends(), false);
         x.raise(1, 0);
         a.due("ends() while one runs", x.ends(), false);
@@ -686,7 +665,7 @@ public final class PromisesTest {
 
     private static void count() {
         a.part("promise 14");
-        DeclarativeRows x = chain();
+        DeclarativeRows x = Rows.chain();
         x.use(0, 2);
         x.use(1, 1);
         x.check(1, 10, false);

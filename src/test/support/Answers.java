@@ -1,3 +1,5 @@
+import java.util.function.IntUnaryOperator;
+
 /** Counts and prints the calls whose answer is not the one that is due. */
 final class Answers {
     private String part = "";
@@ -16,6 +18,25 @@ final class Answers {
 
     void due(String call, boolean got, boolean want) {
         due(call, got ? 1 : 0, want ? 1 : 0);
+    }
+
+    void due(String what, String got, String want) {
+        if (!got.equals(want)) {
+            wrong++;
+            System.out.println(part + ": " + what + " shows\n  " + got + "\n  due is\n  " + want);
+        }
+    }
+
+    /** For each value the same answer is due; in the text of the call _ stands for the value. */
+    void each(String call, int want, IntUnaryOperator answer, int... values) {
+        for (int value : values) {
+            due(call.replace("_", Integer.toString(value)), answer.applyAsInt(value), want);
+        }
+    }
+
+    /** What lies just outside lowest .. highest, and the farthest ints. */
+    void outside(String call, int lowest, int highest, int want, IntUnaryOperator answer) {
+        each(call, want, answer, lowest - 1, highest + 1, Integer.MIN_VALUE, Integer.MAX_VALUE);
     }
 
     int wrong() {
