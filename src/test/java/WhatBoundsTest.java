@@ -20,6 +20,7 @@ public final class WhatBoundsTest {
         countsOfAFullObject();
         raisedInAll();
         ofTheseWithoutATaker();
+        all512CallsAreAnswered();
         a.finish();
     }
 
@@ -92,5 +93,16 @@ public final class WhatBoundsTest {
         a.due("an 11th", Rows.endedByEleventh().count(5), 0);
         a.due("a barred status", Rows.endedByBarredStatus().count(5), 0);
         a.due("an 11th by a status", Rows.endedByEleventhStatus().count(5), 0);
+    }
+
+    private static void all512CallsAreAnswered() {
+        a.part("What it is: at most 512 calls");
+        DeclarativeRows x = new DeclarativeRows();
+        for (int call = 1; call <= 509; call++) {
+            a.due("status(19, 99), call " + call, x.status(19, 99), 0);
+        }
+        a.due("count(4), call 510", x.count(4), 509);
+        a.due("count(5), call 511", x.count(5), 509);
+        a.due("status(19, 99), call 512", x.status(19, 99), 0);
     }
 }
