@@ -14,21 +14,21 @@ public final class FaceTest {
         49, 50, 59, 60, 61, 99, 100, 101, 9998, 9999, 10000, Integer.MAX_VALUE
     };
     private static final Set<String> FACE = Set.of(
-        "int NONE",
-        "DeclarativeRows()",
-        "int exception(int,int)",
-        "int use(int,int)",
-        "int check(int,int,boolean)",
-        "int raise(int,int)",
-        "int taken(int)",
-        "int resume(int,int)",
-        "int nested(int)",
-        "int propagate(int)",
-        "int last(int)",
-        "int status(int,int)",
-        "int mode(int,int)",
-        "boolean ends()",
-        "int count(int)");
+        "public static final int NONE",
+        "public DeclarativeRows()",
+        "public int exception(int,int)",
+        "public int use(int,int)",
+        "public int check(int,int,boolean)",
+        "public int raise(int,int)",
+        "public int taken(int)",
+        "public int resume(int,int)",
+        "public int nested(int)",
+        "public int propagate(int)",
+        "public int last(int)",
+        "public int status(int,int)",
+        "public int mode(int,int)",
+        "public boolean ends()",
+        "public int count(int)");
 
     private static int wrong = 0;
 
@@ -57,21 +57,38 @@ public final class FaceTest {
         Set<String> found = new TreeSet<>();
         for (Field f : face.getDeclaredFields()) {
             if (!Modifier.isPrivate(f.getModifiers())) {
-                found.add(f.getType().getName() + " " + f.getName());
+                found.add(Modifier.toString(f.getModifiers()) + " " + f.getType().getName() + " " + f.getName());
             }
         }
         for (Constructor<?> c : face.getDeclaredConstructors()) {
             if (!Modifier.isPrivate(c.getModifiers())) {
-                found.add("DeclarativeRows" + list(c.getParameterTypes()));
+                found.add(Modifier.toString(c.getModifiers()) + " DeclarativeRows" + list(c.getParameterTypes()));
             }
         }
         for (Method m : face.getDeclaredMethods()) {
             if (!Modifier.isPrivate(m.getModifiers())) {
-                found.add(m.getReturnType().getName() + " " + m.getName() + list(m.getParameterTypes()));
+                found.add(Modifier.toString(m.getModifiers()) + " " + m.getReturnType().getName() + " "
+                    + m.getName() + list(m.getParameterTypes()));
             }
         }
         if (!found.equals(FACE)) {
             fault("the face is " + found + ", due is " + new TreeSet<>(FACE));
+        }
+        if (DeclarativeRows.NONE != -1) {
+            fault("NONE is " + DeclarativeRows.NONE);
+        }
+        if (face.getSuperclass() != Object.class || face.getInterfaces().length != 0) {
+            fault("the class has other members from a class or an interface above it");
+        }
+        classesInsideAreHidden(face);
+    }
+
+    private static void classesInsideAreHidden(Class<?> face) {
+        for (Class<?> inside : face.getDeclaredClasses()) {
+            int flags = inside.getModifiers();
+            if (Modifier.isPublic(flags) || Modifier.isProtected(flags) || !Modifier.isStatic(flags)) {
+                fault(inside.getName() + " is not hidden and static");
+            }
         }
     }
 

@@ -491,6 +491,10 @@ public final class PromisesTest {
         a.due("ends()", x.ends(), true);
         a.due("propagate(3) ended", x.propagate(3), 4);
         a.due("last(3) ended", x.last(3), 3);
+        DeclarativeRows y = Rows.chain();
+        y.raise(1, 0);
+        a.due("propagate(7): the number 1", y.propagate(7), 1);
+        a.due("last(3)", y.last(3), 7);
     }
 
     private static void last() {
